@@ -149,6 +149,7 @@ public final class Promises {
         reckonDue(2, LEAST, d(0.75), LEAST);
         reckonDue(2, 3, d(0.5), 2);
         reckonDue(2, LEAST, LEAST, 0);
+        reckonDue(2, LEAST, LEAST | MINUS_ZERO, MINUS_ZERO);
         reckonDue(2, LEAST_NORMAL, d(0.5), 0x0008000000000000L);
         reckonDue(2, 0x0008000000000000L, d(2), LEAST_NORMAL);
         reckonDue(3, 0, 0, NAN);
@@ -156,6 +157,7 @@ public final class Promises {
         reckonDue(3, d(1), 0, INF);
         reckonDue(3, d(1), MINUS_ZERO, MINUS_INF);
         reckonDue(3, INF, 0, INF);
+        reckonDue(3, INF, d(-2), MINUS_INF);
         reckonDue(3, d(-1), INF, MINUS_ZERO);
         reckonDue(3, MINUS_ZERO, d(4), MINUS_ZERO);
         reckonDue(3, d(4), NAN, NAN);
@@ -172,6 +174,7 @@ public final class Promises {
         reckonDue(4, d(5.5), d(-2), d(1.5));
         reckonDue(4, d(6), d(2), 0);
         reckonDue(4, d(-6), d(2), MINUS_ZERO);
+        reckonDue(4, d(3), d(-3), 0);
         reckonDue(4, d(1), d(0.1), d(0.09999999999999995));
         reckonDue(4, d(1.5), d(2), d(1.5));
         reckonDue(4, MINUS_ZERO, d(2), MINUS_ZERO);

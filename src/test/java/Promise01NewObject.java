@@ -1,7 +1,7 @@
 import java.util.ArrayList;
 import java.util.List;
 
-/** Promise 1: a new object has eight stores that are 0, and is used for 512 calls. */
+/** Promise 1: a new object has eight stores that are 0. Its use for 512 calls is in Uses512Calls. */
 public final class Promise01NewObject extends Checks {
     public static void main(String[] args) {
         runAll(Promise01NewObject.class);
@@ -38,14 +38,6 @@ public final class Promise01NewObject extends Checks {
         NumberBench other = new NumberBench();
         holds("another object's keeps", other, new long[8]);
         holds("another object was made", one, full());
-    }
-
-    private static void the512thCallIsAnsweredAsTheFirst() {
-        NumberBench bench = new NumberBench();
-        for (int call = 1; call < 512; call++) {
-            due("call " + call, bench.whole(call % 8, 0, call), d(call));
-        }
-        due("call 512", bench.sum(0), d(504.0 + 505.0 + 506.0 + 507.0 + 508.0 + 509.0 + 510.0 + 511.0));
     }
 
     private static void manyObjectsStandAtOnce() {
